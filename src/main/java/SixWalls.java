@@ -715,7 +715,9 @@ public final class SixWalls {
         }
 
         private void passAll(int k) {
-            for (int day = 0; day < k; day++) pass();
+            boolean changed = true;
+            // what a day leaves as it was, each later one leaves too, with the same going through each wall
+            for (int day = 0; day < k && changed; day++) changed = pass();
         }
 
         void think(int k) {
@@ -945,15 +947,20 @@ public final class SixWalls {
         /** How much a noise in a house loses at least on its way to each other one. */
         private void listen(int from) {
             for (int h = 0; h < HOUSES; h++) loss[h] = h == from ? 0 : FAR;
-            for (int round = 0; round < HOUSES; round++) {
+            boolean nearer = true;
+            for (int round = 0; round < HOUSES && nearer; round++) {
+                nearer = false;
                 for (int w = 0; w < WALLS; w++) {
                     int less = comb.door[w] == 1 ? 3 : 3 + 2 * comb.thick[w];
-                    int a = comb.low[w];
-                    int b = comb.high[w];
-                    loss[a] = Math.min(loss[a], loss[b] + less);
-                    loss[b] = Math.min(loss[b], loss[a] + less);
+                    if (pass(comb.low[w], comb.high[w], less) || pass(comb.high[w], comb.low[w], less)) nearer = true;
                 }
             }
+        }
+
+        private boolean pass(int from, int to, int less) {
+            if (loss[from] + less >= loss[to]) return false;
+            loss[to] = loss[from] + less;
+            return true;
         }
 
         int loudness(int a, int b, int loud) {
