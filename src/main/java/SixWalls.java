@@ -608,8 +608,8 @@ public final class SixWalls {
                 if (sign == '?') {
                     boolean counts = top > 0 && stack[top - 1] != 0;
                     top = 0;
-                    // on to the line's end: the next one begins behind it
-                    if (!counts) i = numbers[i];
+                    // on to the line's end, never backwards: the next one begins behind it
+                    if (!counts) i = Math.max(i, numbers[i]);
                 } else if (sign == NEGATE || sign == '!') {
                     if (top > 0) stack[top - 1] = sign == '!' ? truth(stack[top - 1] == 0) : -stack[top - 1];
                 } else if (levelOf(sign) >= 0) {

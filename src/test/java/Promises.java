@@ -296,6 +296,16 @@ public final class Promises {
         tell(floor, "d");
         due("far below 0 in between, then held", floor.warmth(10, 1), 0);
         due("its neighbour", floor.warmth(6, 1), 20 + 39 + 9);
+        SixWalls top = apart();
+        for (int h = 0; h < 4; h++) top.mend(h == 0 ? 1 : h == 1 ? 4 : h == 2 ? 2 : 5, 0, 9);
+        top.mend(0, 0, 7);
+        top.days(9);
+        top.mend(0, 5, 4);
+        top.mend(0, 0, 0);
+        tell(top, "8");
+        due("far above 99 in between, then less by the cold, then held", top.warmth(0, 1), 83 + 8 + 8 - 16);
+        top.mend(0, 0, 7);
+        due("with its fire", top.warmth(0, 1), 83 + 8 + 8 + 7 - 16);
     }
 
     private static void cold() {
@@ -428,6 +438,10 @@ public final class Promises {
         due("as it is", x.rounds(0), 9);
         due("33", x.rounds(33), BAD);
         due("-2", x.rounds(-2), BAD);
+        SixWalls z = new SixWalls();
+        z.mend(0, 6, 18);
+        z.empty(5);
+        due("an empty house bears no more, too", z.rounds(4), 3);
         SixWalls y = new SixWalls();
         y.mend(0, 2, 9);
         y.mend(0, 6, 12);
