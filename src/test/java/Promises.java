@@ -297,15 +297,16 @@ public final class Promises {
         due("far below 0 in between, then held", floor.warmth(10, 1), 0);
         due("its neighbour", floor.warmth(6, 1), 20 + 39 + 9);
         SixWalls top = apart();
-        for (int h = 0; h < 4; h++) top.mend(h == 0 ? 1 : h == 1 ? 4 : h == 2 ? 2 : 5, 0, 9);
-        top.mend(0, 0, 7);
+        top.mend(2, 0, 9);
+        top.mend(6, 0, 9);
+        top.mend(7, 0, 9);
+        top.mend(3, 0, 7);
         top.days(9);
         top.mend(0, 5, 4);
-        top.mend(0, 0, 0);
         tell(top, "8");
-        due("far above 99 in between, then less by the cold, then held", top.warmth(0, 1), 83 + 8 + 8 - 16);
-        top.mend(0, 0, 7);
-        due("with its fire", top.warmth(0, 1), 83 + 8 + 8 + 7 - 16);
+        due("far above 99 in between, then less by the cold", top.warmth(3, 1), 99);
+        top.mend(3, 0, 0);
+        due("without its fire", top.warmth(3, 1), 83 + 8 + 8 + 8 - 12);
     }
 
     private static void cold() {
@@ -442,6 +443,8 @@ public final class Promises {
         z.mend(0, 6, 18);
         z.empty(5);
         due("an empty house bears no more, too", z.rounds(4), 3);
+        z.mend(8, 2, 0);
+        due("though the other one would", z.rounds(13), 3);
         SixWalls y = new SixWalls();
         y.mend(0, 2, 9);
         y.mend(0, 6, 12);
