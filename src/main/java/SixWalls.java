@@ -483,7 +483,13 @@ public final class SixWalls {
             at = 0;
             wrong = false;
             newSize = 0;
-            readLines();
+            for (int lines = 0; lines <= LONGEST; lines++) {
+                readLine();
+                if (wrong || at >= fed) break;
+                wrong = tape[at] != ';';
+                if (wrong) break;
+                at++;
+            }
             fed = 0;
             if (wrong) return at;
             int[] oldSigns = signs;
@@ -506,18 +512,6 @@ public final class SixWalls {
             newNumbers[place] = number;
             newSize = place + 1;
             return place;
-        }
-
-        private void readLines() {
-            for (int lines = 0; lines <= LONGEST; lines++) {
-                readLine();
-                if (wrong || at >= fed) return;
-                if (peek() != ';') {
-                    wrong = true;
-                    return;
-                }
-                at++;
-            }
         }
 
         private void readLine() {
@@ -583,7 +577,7 @@ public final class SixWalls {
         }
 
         private static boolean isDigit(int sign) {
-            return within(sign, '0', '9');
+            return sign >= '0' && sign <= '9';
         }
 
         private static boolean isName(int sign) {
@@ -611,7 +605,7 @@ public final class SixWalls {
                     // on to the line's end, never backwards: the next one begins behind it
                     if (!counts) i = Math.max(i, numbers[i]);
                 } else if (sign == NEGATE || sign == '!') {
-                    if (top > 0) stack[top - 1] = sign == '!' ? truth(stack[top - 1] == 0) : -stack[top - 1];
+                    if (top > 0) stack[top - 1] = sign == NEGATE ? -stack[top - 1] : stack[top - 1] == 0 ? 1 : 0;
                 } else if (levelOf(sign) >= 0) {
                     if (top > 1) {
                         top--;
@@ -635,17 +629,13 @@ public final class SixWalls {
             }
         }
 
-        private static int truth(boolean so) {
-            return so ? 1 : 0;
-        }
-
         private static int joined(int sign, int x, int y) {
             switch (sign) {
-                case '|': return truth(x != 0 || y != 0);
-                case '&': return truth(x != 0 && y != 0);
-                case '<': return truth(x < y);
-                case '=': return truth(x == y);
-                case '>': return truth(x > y);
+                case '|': return x != 0 || y != 0 ? 1 : 0;
+                case '&': return x != 0 && y != 0 ? 1 : 0;
+                case '<': return x < y ? 1 : 0;
+                case '=': return x == y ? 1 : 0;
+                case '>': return x > y ? 1 : 0;
                 case '+': return x + y;
                 case '-': return x - y;
                 case '*': return x * y;
@@ -678,16 +668,13 @@ public final class SixWalls {
             int from = warmths[comb.low[wall]];
             int to = warmths[comb.high[wall]];
             int d = Math.abs(from - to);
-            int much = Math.max(0, Math.min(d / 2, lawful(wall, d, Math.max(from, to), Math.min(from, to))));
-            return from < to ? -much : much;
-        }
-
-        private int lawful(int wall, int d, int a, int b) {
-            int t = comb.thick[wall];
-            int o = comb.door[wall];
             // no more than half of it can go: no need to work out the law
             if (d < 2) return 0;
-            return text.isTold() ? text.worth(d, t, o, a, b) : d / (t + 1) / 6 + o;
+            int t = comb.thick[wall];
+            int o = comb.door[wall];
+            int lawful = text.isTold() ? text.worth(d, t, o, Math.max(from, to), Math.min(from, to)) : d / (t + 1) / 6 + o;
+            int much = Math.max(0, Math.min(d / 2, lawful));
+            return from < to ? -much : much;
         }
 
         private void begin() {
@@ -754,7 +741,8 @@ public final class SixWalls {
         }
 
         void live(int k) {
-            think(k);
+            begin();
+            passAll(k);
             System.arraycopy(thought, 0, comb.warm, 0, HOUSES);
             System.arraycopy(went, 0, latest, 0, WALLS);
             passed += k;

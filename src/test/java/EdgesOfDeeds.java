@@ -71,6 +71,28 @@ public final class EdgesOfDeeds extends Due {
         y.empty(15);
         for (int h = 0; h < 16; h++) due("nobody at all", y.takes(h, 1), NOT);
         due("none", y.count(0), 0);
+        SixWalls zero = new SixWalls();
+        zero.empty(1);
+        zero.empty(4);
+        due("HOUSE 0, of like ones the least", zero.takes(1, 0), 0);
+        zero.mend(0, 1, 9);
+        due("HOUSE 0, with most", zero.takes(4, 0), 0);
+        due("HOUSE 0, in deed", zero.takes(1, 1), 0);
+        due("the DOOR of WALL 0", zero.of(0, 11), 1);
+        due("its WANT", zero.of(1, 1), 9);
+        for (int h = 0; h < 16; h++) {
+            SixWalls far = new SixWalls();
+            far.empty(h);
+            for (int g = 0; g < 16; g++) if (g != h && far.wall(100 * h + g) >= 0) far.empty(g);
+            due("all but those beside " + h, far.takes(h, 0), NOT);
+            for (int g = 0; g < 16; g++) {
+                if (g == h || far.wall(100 * h + g) < 0) continue;
+                SixWalls one = alone(g);
+                due("one alone, beside " + h, one.takes(h, 1), g);
+                due("their DOOR", one.of(one.wall(100 * h + g), 11), 1);
+                due("one DOOR", one.count(1), 1);
+            }
+        }
     }
 
     private static void where() {
@@ -196,6 +218,33 @@ public final class EdgesOfDeeds extends Due {
         due("three", z.count(0), 3);
         SixWalls full = new SixWalls();
         due("a birth with no empty neighbour", full.years(seed(0, 0, 0, 0, 0), 1), 16);
+        for (int h = 0; h < 16; h++) crowd(h);
+    }
+
+    /** A house and those beside it are LIVED IN, so many that all but one draw nothing that matters: it a birth. */
+    private static void crowd(int house) {
+        SixWalls x = new SixWalls();
+        int ahead = 0;
+        int many = 1;
+        for (int g = 0; g < 16; g++) {
+            if (g == house) continue;
+            boolean beside = x.wall(100 * house + g) >= 0;
+            if (beside && g < house) ahead++;
+            if (beside) many++;
+            else x.empty(g);
+        }
+        for (int seed = 0; seed < 1000000; seed++) {
+            int z = seed;
+            boolean fits = true;
+            for (int n = 0; n < many && fits; n++) {
+                z = next(z);
+                fits = n == ahead ? draw(z) == 0 : draw(z) > 3;
+            }
+            if (!fits) continue;
+            due("all beside " + house + " are LIVED IN", x.years(seed, 1), many);
+            return;
+        }
+        due("a seed for " + house, 0, 1);
     }
 
     private static void feuds() {
@@ -215,6 +264,19 @@ public final class EdgesOfDeeds extends Due {
         x.years(one, 1);
         due("not of others", x.of(0, 11), 1);
         due("FIRE stays", x.of(5, 0), 0);
+        for (int h = 0; h < 16; h++) {
+            SixWalls y = alone(h);
+            int others = 0;
+            for (int w = 0; w < 33; w++) {
+                boolean its = y.of(w, 13) / 100 == h || y.of(w, 13) % 100 == h;
+                if (!its) others += 1 - y.mend(w, 3, 1);
+            }
+            y.years(one, 1);
+            due("DOORS of others than " + h, y.count(1), others);
+            for (int w = 0; w < 33; w++) y.mend(w, 3, 1);
+            for (int n = 0; n < y.of(h, 4); n++) y.years(one, 1);
+            due("all DOORS of " + h + " are gone, no other", y.count(1), others);
+        }
     }
 
     private static void twenty() {
@@ -360,6 +422,32 @@ public final class EdgesOfDeeds extends Due {
         for (int n = 39; n >= 0; n--) due("40 of 100", y.undo(), n);
         due("no more", y.undo(), STATE);
         for (int h = 0; h < 16; h++) due("FIRE of " + h, y.of(h, 0), h < 12 ? 4 : 3);
+        sorts();
+    }
+
+    /** Changes of all sorts, more than are kept, undone and done again one by one. */
+    private static void sorts() {
+        SixWalls x = new SixWalls();
+        int[] asked = {0, 1, 10, 11, 12, 20, 21};
+        int[][] made = new int[45][];
+        for (int n = 0; n < 45; n++) {
+            int what = n * 3 % 7;
+            int number = what < 5 ? n % 16 : 0;
+            int was = x.of(number, asked[what]);
+            int v = what == 3 ? 1 - was : what == 4 ? (was + 1) % 6 : what == 6 ? 6 + n : (was + 1 + n % 8) % 10;
+            due("change " + n, x.mend(number, what, v), was);
+            made[n] = new int[] {number, what, was, v};
+        }
+        for (int n = 44; n >= 5; n--) {
+            due("undone " + n, x.undo(), n - 5);
+            due("as ahead of " + n, x.of(made[n][0], asked[made[n][1]]), made[n][2]);
+        }
+        due("no more", x.undo(), STATE);
+        for (int n = 5; n < 45; n++) {
+            due("done again " + n, x.redo(), 44 - n);
+            due("as behind " + n, x.of(made[n][0], asked[made[n][1]]), made[n][3]);
+        }
+        due("no more", x.redo(), STATE);
     }
 
     private static void image() {

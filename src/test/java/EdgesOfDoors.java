@@ -33,6 +33,17 @@ public final class EdgesOfDoors extends Due {
         due("a shorter one", x.way(12), 13);
         for (int h = 0; h < 16; h++) x.empty(h);
         due("by houses where nobody lives", x.way(12), 13);
+        SixWalls y = new SixWalls();
+        for (int ab : new int[] {1, 4, 105, 405}) y.mend(y.wall(ab), 3, 1);
+        due("two ways, as short as each other", y.way(5), 2);
+        due("and back", y.way(500), 2);
+        for (int w = 0; w < 33; w++) {
+            SixWalls z = new SixWalls();
+            z.mend(w, 3, 1);
+            int ab = z.of(w, 13);
+            due("by the DOOR of " + w, z.way(ab), 1);
+            due("by it, back", z.way(ab % 100 * 100 + ab / 100), 1);
+        }
     }
 
     private static void shutIn() {
@@ -70,6 +81,10 @@ public final class EdgesOfDoors extends Due {
         x.empty(10);
         due("nobody: none", x.opened(0), 0);
         due("nobody: no bits", x.opened(1), 0);
+        SixWalls alone = new SixWalls();
+        for (int h = 0; h < 16; h++) if (alone.of(h, 4) < 6) alone.empty(h);
+        due("nobody at the EDGE", alone.opened(0), 4);
+        due("nobody at the EDGE: the same ones", alone.opened(1), 1L << 4 | 1L << 7 | 1L << 12 | 1L << 15);
         SixWalls y = new SixWalls();
         for (int h : new int[] {5, 6, 9}) y.empty(h);
         // 10 by 5, where nobody lives, would be the least number, but two doors
@@ -96,6 +111,17 @@ public final class EdgesOfDoors extends Due {
     }
 
     private static void heard() {
+        SixWalls near = new SixWalls();
+        for (int w = 0; w < 33; w++) {
+            int ab = near.of(w, 13);
+            due("through " + w, near.heard(ab, 50), 41);
+            due("through " + w + ", back", near.heard(ab % 100 * 100 + ab / 100, 50), 41);
+        }
+        near.mend(0, 2, 0);
+        near.mend(32, 2, 0);
+        for (int a = 0; a < 16; a++) {
+            for (int b = 0; b < a; b++) due("back from " + b, near.heard(100 * a + b, 99), near.heard(100 * b + a, 99));
+        }
         bounds("heard(1, loud)", 0, 99, BAD, (x, loud) -> x.heard(1, loud));
         bounds("heard(0, loud)", 0, 99, BAD, (x, loud) -> x.heard(0, loud));
         SixWalls x = new SixWalls();
@@ -214,6 +240,17 @@ public final class EdgesOfDoors extends Due {
         int then = y.colours(1);
         for (int w = 0; w < 33; w++) y.mend(w, 4, y.paint(w));
         due("as by hand", y.colours(0), then);
+        for (int drawn = 1; drawn < 60; drawn++) {
+            SixWalls z = new SixWalls();
+            int v = drawn;
+            for (int w = 0; w < 33; w++) {
+                v = v * 1103515245 + 12345;
+                z.mend(w, 4, (v >>> 16) % (2 + drawn % 5));
+            }
+            int calm = z.colours(1);
+            for (int w = 0; w < 33; w++) z.mend(w, 4, z.paint(w));
+            due("as by hand, drawn " + drawn, z.colours(0), calm);
+        }
     }
 
     private static void pots() {
@@ -225,5 +262,10 @@ public final class EdgesOfDoors extends Due {
         }
         for (int w = 0; w < 33; w++) x.mend(w, 4, 5);
         due("one again", x.colours(2), 1);
+        for (int w = 0; w < 33; w++) {
+            x.mend(w, 4, w % 5);
+            due("one WALL alone of its COLOUR", x.colours(2), 2);
+            x.mend(w, 4, 5);
+        }
     }
 }

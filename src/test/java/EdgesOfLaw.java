@@ -67,6 +67,30 @@ public final class EdgesOfLaw extends Due {
         due("a fault", x.law(), -100);
         due("THE TAPE is empty then, too", x.count(3), 0);
         due("the law stays", x.of(13, 15), 7);
+        first();
+        worth("-9" + "-9".repeat(3) + "+1".repeat(56), 20);
+        worth("-9" + ";9".repeat(59), 0);
+        worth("0?9;".repeat(29) + "-1+9", 8);
+    }
+
+    /** A law that is the first one of its comb; what has a fault, however late, leaves it. */
+    private static void first() {
+        SixWalls x = new SixWalls();
+        x.mend(5, 0, 9);
+        x.days(1);
+        due("29 and 20 through THICK 3, without a text", x.of(13, 15), 0);
+        due("a fault ahead of the first law", tell(x, "d/3+1+"), -106);
+        due("still without a text", x.of(13, 15), 0);
+        due("the first law", tell(x, "d/3"), 1);
+        due("by it", x.of(13, 15), 3);
+        due("a late fault", tell(x, "1+1+1+1+1+1;2?3;4?5)"), -119);
+        due("by the first, still", x.of(13, 15), 3);
+        due("a longer law", tell(x, "0?1;0?2;2*3-2"), 1);
+        due("by it", x.of(13, 15), 4);
+        due("a fault", tell(x, "d?"), -102);
+        due("by the longer one, still", x.of(13, 15), 4);
+        due("a shorter law", tell(x, "2"), 1);
+        due("by it", x.of(13, 15), 2);
     }
 
     private static void lines() {
@@ -85,6 +109,10 @@ public final class EdgesOfLaw extends Due {
     private static void asked() {
         good("d?t");
         good("d|t?o&a");
+        good("d?t|o");
+        good("d|t?o|a;d|t?o|a");
+        worth("1?0|2;7", 1);
+        worth("0?1;1?0|2", 1);
         good("d?t;o?a;b");
         fault("?", 0);
         fault("?d", 0);
@@ -197,6 +225,11 @@ public final class EdgesOfLaw extends Due {
         good("((((((d)))+(((d))))))");
         fault("((((((d)))+((((d)))))))", 14);
         good("((((((d))))));------d?!!!!!!d");
+        fault("(((((((d)))))))?d", 6);
+        fault("d?(((((((d)))))))", 8);
+        fault("d;(((((((d)))))))", 8);
+        fault("d;d?-------d", 10);
+        fault("------d;!!!!!!d?(((((((d", 22);
         worth("------5", 5);
         worth("-----5", 0);
         worth("!!!!!!5", 1);

@@ -252,12 +252,13 @@ public final class EdgesOfShelves extends Due {
             }
             for (int n : new int[] {61, 62, 100, MAX}) due("of " + n, new SixWalls().row(0, sort, n), BAD);
         }
-        SixWalls x = withRows(60);
         for (int sort = 0; sort < 5; sort++) {
-            x.put(sort, 59, 1);
+            SixWalls x = withRows(60);
+            for (int i = 0; i < 60; i++) x.put(sort, i, 1);
             due("shorter", x.row(sort, sort, 10), 1);
-            due("longer again", x.row(sort, sort, 60), 1);
-            due("0 at first", x.element(sort, 59), 0);
+            due("0 at first", x.element(sort, 0), 0);
+            due("longer again", x.row(sort, (sort + 1) % 5, 60), 1);
+            for (int i = 0; i < 60; i++) due("0 at first", x.element(sort, i), 0);
         }
     }
 
@@ -479,6 +480,15 @@ public final class EdgesOfShelves extends Due {
     }
 
     private static void noRow() {
+        SixWalls gone = burning(7, 7, 7);
+        gone.keep(0, -1);
+        due("a row that was there is missing", gone.fires(0, 0, 3), 0);
+        burn("a row that was there is missing", gone, 0, 0, 0, 0);
+        gone.body(0);
+        gone.row(0, 0, 3);
+        gone.keep(0, 0);
+        gone.keep(0, -1);
+        due("a row that was there, then a cell", gone.fires(0, 0, 3), 0);
         SixWalls x = mixed();
         due("the row is missing", x.fires(5, 0, 16), 0);
         due("missing, ahead of it", x.fires(5, -1, 16), 0);

@@ -25,6 +25,35 @@ public final class EdgesOfWinters extends Due {
         for (int h : new int[] {1, 2, 4, 6, 9, 10}) due("beside 5: " + h, x.warmth(h, 1), 22);
         due("farther off", x.warmth(0, 1), 20);
         due("the sum", x.warmth(-1, 1), 328);
+        SixWalls y = uneven();
+        int[] then = new int[16];
+        for (int h = 0; h < 16; h++) then[h] = y.of(h, 2) + y.of(h, 0) - y.of(0, 20) * (6 - y.of(h, 4));
+        for (int w = 0; w < 33; w++) {
+            int much = y.of(w, 15);
+            due("something goes through " + w, much != 0 ? 1 : 0, 1);
+            due("gave, by " + w, y.gave(w, 1), much);
+            then[y.of(w, 13) / 100] -= much;
+            then[y.of(w, 13) % 100] += much;
+        }
+        int sum = 0;
+        for (int h = 0; h < 16; h++) {
+            due("through all WALLS, in " + h, y.warmth(h, 1), then[h]);
+            sum += then[h];
+        }
+        due("in deed", y.days(1), sum);
+        for (int h = 0; h < 16; h++) due("in deed, in " + h, y.of(h, 2), then[h]);
+    }
+
+    /** Each two neighbours differ by 8 at least, none is near 0 or 99, and there are fires and cold. */
+    private static SixWalls uneven() {
+        SixWalls x = apart();
+        int[] kind = {0, 1, 2, 0, 2, 0, 1, 2, 0, 1, 2, 0, 2, 0, 1, 2};
+        for (int h = 0; h < 16; h++) x.mend(h, 0, 3 * kind[h]);
+        x.days(3);
+        for (int h = 0; h < 16; h++) x.mend(h, 0, (h * 5) % 7);
+        x.mend(0, 5, 2);
+        tell(x, "d/4");
+        return x;
     }
 
     private static void lacks() {

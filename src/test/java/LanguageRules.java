@@ -1,16 +1,21 @@
 import com.sun.source.tree.*;
 import com.sun.source.util.JavacTask;
 import com.sun.source.util.SourcePositions;
+import com.sun.source.util.TreePath;
 import com.sun.source.util.TreeScanner;
 import com.sun.source.util.Trees;
 import java.io.IOException;
 import java.nio.file.Files;
 import java.nio.file.Path;
+import java.util.LinkedHashMap;
+import java.util.LinkedHashSet;
 import java.util.List;
+import java.util.Map;
 import java.util.Set;
 import java.util.TreeSet;
 import java.util.regex.Matcher;
 import java.util.regex.Pattern;
+import javax.lang.model.element.Element;
 import javax.lang.model.element.Modifier;
 import javax.tools.JavaCompiler;
 import javax.tools.StandardJavaFileManager;
@@ -26,6 +31,9 @@ public final class LanguageRules extends TreeScanner<Void, Void> {
     private final Set<String> own = new TreeSet<>();
     private final Set<String> publicNames = new TreeSet<>();
     private CompilationUnitTree unit;
+    private final Map<Element, Set<Element>> calls = new LinkedHashMap<>();
+    private Trees trees;
+    private Element caller = null;
     private SourcePositions places;
     private String inMethod = "";
 
@@ -37,7 +45,10 @@ public final class LanguageRules extends TreeScanner<Void, Void> {
             LanguageRules rules = new LanguageRules();
             rules.places = Trees.instance(task).getSourcePositions();
             rules.unit = task.parse().iterator().next();
+            task.analyze();
+            rules.trees = Trees.instance(task);
             rules.look();
+            rules.lookAtDepths();
         }
         rulesOfText(Files.readString(source));
         System.out.println(wrong == 0 ? "the rules are kept" : wrong + " places are outside the rules");
@@ -89,6 +100,23 @@ public final class LanguageRules extends TreeScanner<Void, Void> {
         scan(unit, null);
     }
 
+    private void lookAtDepths() {
+        for (Element method : calls.keySet()) {
+            if (!method.getModifiers().contains(Modifier.PUBLIC)) continue;
+            int deep = depth(method, new LinkedHashSet<>());
+            if (deep > 8) say("rule 11: " + method + " goes " + deep + " calls deep");
+        }
+    }
+
+    /** How many of the class's own methods stand open at most from one on, each counted once where it calls itself. */
+    private int depth(Element method, Set<Element> open) {
+        if (!calls.containsKey(method) || !open.add(method)) return 0;
+        int most = 0;
+        for (Element called : calls.get(method)) most = Math.max(most, depth(called, open));
+        open.remove(method);
+        return most + 1;
+    }
+
     @Override
     public Void visitClass(ClassTree c, Void v) {
         Set<Modifier> flags = c.getModifiers().getFlags();
@@ -122,8 +150,11 @@ public final class LanguageRules extends TreeScanner<Void, Void> {
         if (m.getParameters().size() > 7) say("rule 11: parameters", m);
         if (lines(m) > 60) say("rule 11: " + lines(m) + " lines", m);
         inMethod = m.getName().toString();
+        caller = trees.getElement(TreePath.getPath(unit, m));
+        calls.put(caller, new LinkedHashSet<>());
         super.visitMethod(m, v);
         inMethod = "";
+        caller = null;
         return null;
     }
 
@@ -140,6 +171,7 @@ public final class LanguageRules extends TreeScanner<Void, Void> {
     public Void visitMethodInvocation(MethodInvocationTree t, Void v) {
         String called = t.getMethodSelect().toString();
         if (Character.isUpperCase(called.charAt(0)) && !LIBRARY.contains(called)) say("rule 4: " + called, t);
+        if (caller != null) calls.get(caller).add(trees.getElement(TreePath.getPath(unit, t.getMethodSelect())));
         return super.visitMethodInvocation(t, v);
     }
 
