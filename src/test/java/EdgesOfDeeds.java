@@ -487,5 +487,13 @@ public final class EdgesOfDeeds extends Due {
         x.days(1);
         due("the latest one", x.back(), 324);
         due("WARMTH of it", x.of(5, 2), 24);
+        x.empty(5);
+        x.takes(9, 1);
+        due("who is LIVED IN now", x.image(), 324);
+        x.takes(5, 1);
+        x.empty(9);
+        due("laid back", x.back(), 324);
+        due("no longer LIVED IN, by the latest one", x.of(5, 3), 0);
+        due("LIVED IN, by the latest one", x.of(9, 3), 1);
     }
 }

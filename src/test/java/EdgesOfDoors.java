@@ -60,6 +60,20 @@ public final class EdgesOfDoors extends Due {
         due("who lives there", x.doors(0), 1);
         x.empty(10);
         due("nobody", x.doors(0), 0);
+        for (int w = 0; w < 33; w++) oneDoor(w);
+    }
+
+    /** One DOOR alone lets one of the middle out if its other HOUSE is at the EDGE, whichever of them is the lesser. */
+    private static void oneDoor(int wall) {
+        SixWalls x = new SixWalls();
+        x.mend(wall, 3, 1);
+        boolean lowIn = x.of(x.of(wall, 13) / 100, 4) == 6;
+        boolean highIn = x.of(x.of(wall, 13) % 100, 4) == 6;
+        due("SHUT IN with the DOOR of " + wall, x.doors(0), lowIn == highIn ? 4 : 3);
+        due("OPENED with the DOOR of " + wall, x.opened(0), lowIn || highIn ? 3 : 4);
+        long which = x.opened(1);
+        for (int w = 0; w < 33; w++) if ((which >> w & 1) == 1) due("shut till then", x.mend(w, 3, 1), 0);
+        due("all OUT by those of OPENED", x.doors(0), 0);
     }
 
     private static void opened() {

@@ -91,6 +91,21 @@ public final class EdgesOfLaw extends Due {
         due("by the longer one, still", x.of(13, 15), 4);
         due("a shorter law", tell(x, "2"), 1);
         due("by it", x.of(13, 15), 2);
+        firstOfAll();
+    }
+
+    /** 121 signs to work out in 120 bytes are the most there can be: as the first law, and as each one behind it. */
+    private static void firstOfAll() {
+        SixWalls x = new SixWalls();
+        String lines = "-1" + ";1".repeat(59);
+        for (int n = 0; n < 3; n++) due("the fullest text, law " + n, tell(x, lines), 1);
+        SixWalls y = new SixWalls();
+        y.mend(5, 0, 9);
+        y.days(1);
+        due("the longest way to a line that counts", tell(y, "0?1;".repeat(29) + "-1+3"), 1);
+        due("by it", y.of(13, 15), 2);
+        due("behind it", tell(y, "0?1;".repeat(29) + "0?-3"), 1);
+        due("none counts", y.of(13, 15), 0);
     }
 
     private static void lines() {
